@@ -2236,15 +2236,14 @@ public final class OakYard {
             }
             int state = yard.ships[ship].state;
             System.arraycopy(holders[ship], 0, holders[ship + 1], 0, MOST_PIECES);
-            if (within(state, AFLOAT, AT_SEA)) {
+            boolean floats = within(state, AFLOAT, AT_SEA);
+            if (floats || state == ON_SLIP && seatAll(yard, ship, holders[ship + 1])) {
                 decide(yard, ship + 1, afloat | 1 << ship);
-                return;
             }
-            if (state == ON_SLIP && seatAll(yard, ship, holders[ship + 1])) {
-                decide(yard, ship + 1, afloat | 1 << ship);
+            boolean enoughLeft = Integer.bitCount(afloat) + yard.shipCount - ship - 1 >= Integer.bitCount(mostAfloat);
+            if (!floats && enoughLeft) {
+                // what was tried with this ship is forgotten
                 System.arraycopy(holders[ship], 0, holders[ship + 1], 0, MOST_PIECES);
-            }
-            if (Integer.bitCount(afloat) + yard.shipCount - ship - 1 >= Integer.bitCount(mostAfloat)) {
                 decide(yard, ship + 1, afloat);
             }
         }
