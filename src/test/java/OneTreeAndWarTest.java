@@ -149,11 +149,11 @@ final class OneTreeAndWarTest {
         shedPlanks(y, 10);
         c.is("one piece", y.war(), 4);
         shedPlanks(y, 10);
-        c.is("two pieces", y.war(), 4);
+        c.is("two pieces: ship 1 has less bits", y.war(), 2);
         shedPlanks(y, 10);
         c.is("three pieces: the least bits of the most ships", y.war(), 6);
         shedPlanks(y, 10);
-        c.is("four pieces", y.war(), 6);
+        c.is("four pieces: {0, 2} has less bits", y.war(), 5);
         shedPlanks(y, 10);
         c.is("five pieces", y.war(), 14);
         shedPlanks(y, 10, 10);
