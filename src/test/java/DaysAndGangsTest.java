@@ -152,6 +152,7 @@ final class DaysAndGangsTest {
             c.is("a look at it", y.look(heart), 0);
         }
         c.is("none on the road", y.piece(10, 7), 0);
+        c.is("a bought one has none", y.piece(y.buy(0, 0, 10, 10, 0), 7), 0);
         y.days(40);
         c.is("but later", y.piece(10, 7), 4);
     }
@@ -195,6 +196,8 @@ final class DaysAndGangsTest {
         c.is("count of rotted", y.count(10), 1);
         c.is("shed of a rotted one", y.shed(0), false);
         c.is("look at one of 100 in a ship", y.look(1), 100);
+        y.days(40);
+        c.is("100 still", y.look(1), 100);
         y.out(0, 0);
         c.is("out of the ship it is in the pond", y.piece(1, 1), 1);
         y.days(1);
@@ -338,6 +341,14 @@ final class DaysAndGangsTest {
         y.ship(5, 5000, false);
         y.lay(5);
         c.is("a fifth ship is not asked", y.gangs(), 3);
+        OakYard four = new OakYard();
+        four.slips(8);
+        for (int n = 0; n < 5; n++) {
+            four.ship(5, n == 3 ? 50 : 1, false);
+            four.lay(n);
+            four.gang(5);
+        }
+        c.is("the fourth ship is asked", four.gangs(), 5);
         OakYard seven = new OakYard();
         seven.ship(5, 12, false);
         seven.lay(0);

@@ -62,6 +62,9 @@ final class ModelTest {
         r = new Random(seed);
         run.setLength(0);
         same = true;
+        if (seed % 3 == 0) {
+            beginWar();
+        }
         begin();
         for (int n = 0; n < 450 && same; n++) {
             chanceCall(deck.get(r.nextInt(deck.size())));
@@ -100,6 +103,34 @@ final class ModelTest {
         }
         if (style > 2) {
             call("road", 0, 0);
+        }
+    }
+
+    /** A yard whose ships on slips want more than the shed has. */
+    private void beginWar() {
+        call("slips", 8);
+        call("sheds", 120);
+        int ships = 3 + r.nextInt(4);
+        for (int x = 0; x < ships; x++) {
+            call("ship", 5, 1, flip());
+            int needs = 1 + r.nextInt(ships > 4 ? 2 : 4);
+            for (int n = 0; n < needs; n++) {
+                int kind = r.nextInt(3) / 2;
+                call("need", x, kind, 1 + r.nextInt(12), 1 + r.nextInt(12), kind * (r.nextInt(5) - 2));
+            }
+            call("lay", x);
+        }
+        for (int p = 0; p < 4 + r.nextInt(9); p++) {
+            int kind = r.nextInt(3) / 2;
+            call("buy", kind, r.nextInt(3), 5 + r.nextInt(10), 3 + r.nextInt(10), kind * (r.nextInt(5) - 2));
+            call("shed", p);
+            if (r.nextInt(3) == 0) {
+                int ship = r.nextInt(ships);
+                call("fit", ship, r.nextInt(b.led(ship, 2)), p, true);
+            }
+            if (needsOnSlips() <= 12) {
+                call("war");
+            }
         }
     }
 

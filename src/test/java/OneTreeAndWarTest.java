@@ -134,6 +134,15 @@ final class OneTreeAndWarTest {
         c.is("each need has one that is enough", y.war(), 3);
         y.fit(0, 0, 0, true);
         c.is("others are robbed of their pieces", y.war(), 3);
+        OakYard one = slips(new int[] {10, 20}, new int[] {25}, new int[] {25, 25});
+        shedPlanks(one, 30, 12, 17, 26);
+        c.is("two long ones for three needs", one.war(), 3);
+        OakYard none = slips(new int[] {10, 20}, new int[] {25});
+        shedPlanks(none, 30, 12, 17);
+        c.is("one long one for two needs", none.war(), 1);
+        OakYard chain = slips(new int[] {10, 20, 30}, new int[] {40, 10});
+        shedPlanks(chain, 45, 35, 25, 15, 12);
+        c.is("all move along", chain.war(), 3);
         OakYard afloat = slips(new int[] {10}, new int[] {10});
         shedPlanks(afloat, 10);
         afloat.fit(0, 0, 0, true);
@@ -163,6 +172,20 @@ final class OneTreeAndWarTest {
         OakYard long1 = slips(new int[] {20}, new int[] {10}, new int[] {10}, new int[] {20});
         shedPlanks(long1, 10, 20);
         c.is("{0, 1} ahead of {1, 2}", long1.war(), 3);
+        OakYard kinds = new OakYard();
+        kinds.slips(4);
+        int[][] wants = {{0, 1}, {0, 3}, {1}, {3}};
+        for (int s = 0; s < 4; s++) {
+            kinds.ship(5, 0, false);
+            for (int kind : wants[s]) {
+                kinds.need(s, kind, 5, 5, 0);
+            }
+            kinds.lay(s);
+        }
+        kinds.shed(kinds.buy(0, 0, 10, 10, 0));
+        kinds.shed(kinds.buy(1, 0, 10, 10, 0));
+        kinds.shed(kinds.buy(3, 0, 10, 10, 0));
+        c.is("{1, 2} has less bits than {0, 3}", kinds.war(), 6);
         OakYard sizes = slips(new int[] {40}, new int[] {10}, new int[] {10}, new int[] {20});
         shedPlanks(sizes, 10, 30);
         c.is("{1, 2} has less bits than {1, 3}", sizes.war(), 6);

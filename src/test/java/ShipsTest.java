@@ -45,7 +45,8 @@ final class ShipsTest {
         c.refusesIndex("a wrong need of no ship", () -> y.need(1, 9, 5, 5, 0));
         c.refusesIndex("need of ship -1", () -> y.need(-1, 0, 5, 5, 0));
         c.is("the first need", y.need(0, 1, 300, 60, -9), 0);
-        for (int n = 1; n < 8; n++) {
+        c.is("the second need", y.need(0, 1, 1, 1, 9), 1);
+        for (int n = 2; n < 8; n++) {
             c.is("a further need", y.need(0, 3, 1, 1, 0), n);
         }
         c.is("a 9th need", y.need(0, 0, 5, 5, 0), OakYard.NONE);

@@ -73,14 +73,18 @@ final class TreesAndPiecesTest {
         c.is("no tree came", y.count(1), 0);
         c.is("the first tree", y.tree(0, 0, 5, 5, -9, 0), 0);
         c.is("the second tree", y.tree(5, 2, 100, 60, 9, 9), 1);
-        for (int n = 2; n < 60; n++) {
+        for (int n = 2; n < 58; n++) {
             c.is("a further tree", y.tree(1, 1, 50, 20, 0, 0), n);
         }
+        y.tree(1, 1, 50, 20, 0, 0);
+        y.tree(1, 2, 77, 33, 0, 0);
         c.refusesMore("a 61st tree", () -> y.tree(0, 0, 50, 20, 0, 0));
         c.refusesNumber("a wrong 61st tree", () -> y.tree(0, 0, 50, 20, 0, 10));
         c.is("trees", y.count(1), 60);
         y.fell(7, 0);
         c.is("trees that stand", y.count(2), 59);
+        c.is("as long as the 60th", y.piece(y.fell(59, 0), 2), 77);
+        c.is("as long as the 59th", y.piece(y.fell(58, 0), 2), 50);
     }
 
     private static void felling() {
@@ -104,8 +108,10 @@ final class TreesAndPiecesTest {
         OakYard full = new OakYard();
         full.tree(0, 0, 50, 20, 0, 0);
         for (int n = 0; n < 120; n++) {
-            full.buy(0, 0, 10, 10, 0);
+            full.buy(0, 0, n < 119 ? 10 : 12, 10, 0);
         }
+        c.is("the 119th piece", full.piece(118, 2), 10);
+        c.is("the 120th piece", full.piece(119, 2), 12);
         c.is("fell with 120 pieces", full.fell(0, 0), OakYard.NONE);
         c.is("it stands", full.count(2), 1);
         c.refusesMore("a 121st piece bought", () -> full.buy(0, 0, 10, 10, 0));
@@ -130,6 +136,8 @@ final class TreesAndPiecesTest {
         c.is("a plank bought", y.buy(0, 2, 5, 1, 0), 0);
         c.is("a knee bought", y.buy(1, 1, 100, 60, -9), 1);
         c.is("a rope bought", y.buy(3, 0, 50, 3, 0), 2);
+        c.is("a knee of the greatest bend", y.buy(1, 1, 100, 60, 9), 3);
+        c.is("its bend", y.piece(3, 4), 9);
         tells(y, 0, 0, 1, 5, 1, 0, 2, 0, 0, 0, -1, 2, -1, -1, 0, -1);
         tells(y, 1, 1, 1, 100, 60, -9, 1, 0, 0, 0, -1, 2, -1, -1, 0, -1);
         tells(y, 2, 3, 1, 50, 3, 0, 0, 0, 0, 0, -1, 2, -1, -1, 0, -1);

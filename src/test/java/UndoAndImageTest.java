@@ -9,6 +9,8 @@ final class UndoAndImageTest {
         undoAndTape();
         image();
         imageOfAll();
+        imageOverOthers();
+        nothingIsLeft();
         warrantsBack();
         counts();
         c.end();
@@ -237,6 +239,109 @@ final class UndoAndImageTest {
         }
         c.is("slips", y.lay(1) && y.lay(2), true);
         c.is("2 slips", y.lay(3), false);
+    }
+
+    /** What the image has is there again, also where other things came in its stead. */
+    private static void imageOverOthers() {
+        OakYard y = new OakYard();
+        y.buy(0, 0, 10, 10, 0);
+        tellAll(y, 0);
+        y.keep();
+        c.is("undo of what was ahead of all", y.undo(), true);
+        c.is("nothing is there", y.count(11) + y.count(13) + y.count(14) + y.count(16) + y.count(3), 0);
+        y.buy(0, 0, 10, 10, 0);
+        tellAll(y, 1);
+        asked(y, 1);
+        y.back();
+        asked(y, 0);
+    }
+
+    private static void tellAll(OakYard y, int by) {
+        Check.warrant(y, by == 0 ? "fit plank; look 1; look 2" : "look 3", 0);
+        y.tree(0, by, 20 + by, 10 + by, 0, 0);
+        y.ship(9, 6 + by, by == 0);
+        y.need(0, 1, 10 + by, 10 - by, 4 * by);
+        y.lay(0);
+        y.dock(by);
+        y.tide(by, 9);
+        y.gang(2 + by);
+        y.works(0, by == 0 ? 0 : OakYard.NONE);
+        y.enter(by, 0, 7 + by, 3 + by);
+        y.muster(0, 5 + 2 * by);
+        y.choice(10 + by, 2 - by, 3, 1 - by);
+        for (int row = 0; row < 3; row++) {
+            y.coin(row, by, 10);
+        }
+        y.sheds(1 + by);
+        y.slips(1 + by);
+        y.road(0, by);
+        y.look(0);
+    }
+
+    private static void asked(OakYard y, int by) {
+        c.is("lines", y.count(17), by == 0 ? 3 : 1);
+        c.is("why", y.why(0, 0, 0), by == 0 ? 0 : OakYard.NONE);
+        c.is("work", y.led(0, 1), 6 + by);
+        c.is("gangs on it", y.led(0, 11), 1 - by);
+        c.is("the tide of today", y.lastTide(0, 0, by), by == 0 ? 0 : 1);
+        c.is("plan of gangs", y.gangs(), 3);
+        c.is("false of book 0", y.wrong(0), 0);
+        c.is("hand of book 0", y.hand(0), by == 0 ? 3 : OakYard.NONE);
+        c.is("hand of book 1", y.hand(1), by == 0 ? OakYard.NONE : 4);
+        c.is("paid", y.paid(1), by == 0);
+        c.is("ready in year 1", y.best(1), 0);
+        c.is("ready in year 3", y.best(3), 1 - by);
+        int tree = y.fell(0, 0);
+        c.is("sort", y.piece(tree, 5), by);
+        c.is("length", y.piece(tree, 2), 20 + by);
+        c.is("thick", y.piece(tree, 3), 10 + by);
+        c.is("on the road", y.piece(tree, 1), 1 - by);
+        int[][] knees = {{10, 10, 0}, {9, 10, 0}, {10, 9, 0}, {11, 9, 4}, {11, 9, 2}};
+        y.sheds(120);
+        for (int n = 0; n < knees.length; n++) {
+            int knee = y.buy(1, 0, knees[n][0], knees[n][1], knees[n][2]);
+            y.shed(knee);
+            c.is("a knee that is enough", y.fit(0, 0, knee, true), n == 3 * by);
+            y.out(0, 0);
+        }
+    }
+
+    /** Nothing of a piece, a tree or a ship that is gone is left in those that come in its stead. */
+    private static void nothingIsLeft() {
+        OakYard y = new OakYard();
+        Check.warrant(y, "fit plank if seen; fit knee", 0);
+        y.road(0, 0);
+        y.tree(0, 2, 40, 10, 0, 9);
+        y.ship(5, 0, true);
+        y.need(0, 0, 5, 5, 0);
+        y.lay(0);
+        y.buy(0, 0, 10, 10, 0);
+        y.look(0);
+        c.is("looked at", y.may(0, 0, 0), true);
+        y.undo();
+        y.buy(0, 0, 10, 10, 0);
+        c.is("another one in its stead is not", y.may(0, 0, 0), false);
+        y.undo();
+        y.keep();
+        y.fell(0, 0);
+        y.days(40);
+        y.shed(0);
+        y.days(20);
+        y.fit(0, 0, 0, true);
+        y.look(0);
+        y.days(1);
+        y.back();
+        y.buy(0, 1, 10, 10, 0);
+        for (int what = 6; what <= 14; what++) {
+            int due = what == 9 || what == 11 || what == 12 || what == 14 ? OakYard.NONE : 0;
+            c.is("of another piece in its stead " + what, y.piece(0, what), due);
+        }
+        y.days(200);
+        c.is("no heart is left in it", y.piece(0, 7), 0);
+        c.is("a look at it", y.look(0), 0);
+        y.back();
+        y.tree(0, 0, 30, 10, 0, 0);
+        c.is("the tree stands again", y.count(2), 2);
     }
 
     private static void warrantsBack() {
