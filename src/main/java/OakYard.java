@@ -917,19 +917,19 @@ public final class OakYard {
             return act | which << 3 | number << 6;
         }
 
-        int firstFit(int kind, Warrants facts) {
+        int firstFit(int kind, Warrants asked) {
             for (int n = 0; n < lines; n++) {
-                if (verbs[n] == FIT_LINE && numbers[n] == kind && holds(n, facts)) {
+                if (verbs[n] == FIT_LINE && numbers[n] == kind && holds(n, asked)) {
                     return n;
                 }
             }
             return NONE;
         }
 
-        int sumOf(int verb, Warrants facts) {
+        int sumOf(int verb, Warrants asked) {
             int sum = 0;
             for (int n = 0; n < lines; n++) {
-                if (verbs[n] == verb && holds(n, facts)) {
+                if (verbs[n] == verb && holds(n, asked)) {
                     sum += numbers[n];
                 }
             }
@@ -948,7 +948,7 @@ public final class OakYard {
 
         // The answers of a condition's parts stand as bits of one number, the latest lowest: with parts six deep there
         // are never more than some fifteen at once.
-        private boolean holds(int line, Warrants facts) {
+        private boolean holds(int line, Warrants asked) {
             int from = line == 0 ? 0 : ends[line - 1];
             int answers = 1;
             for (int c = from; c < ends[line]; c++) {
@@ -961,18 +961,18 @@ public final class OakYard {
                 } else if (act == OR) {
                     answers = answers >>> 1 | lowest;
                 } else {
-                    answers = answers << 1 | (isSo(act, code[c], facts) ? 1 : 0);
+                    answers = answers << 1 | (isSo(act, code[c], asked) ? 1 : 0);
                 }
             }
             return (answers & 1) == 1;
         }
 
-        private static boolean isSo(int act, int step, Warrants facts) {
+        private static boolean isSo(int act, int step, Warrants asked) {
             int which = step >>> 3 & 7;
             if (act == TAG) {
-                return (facts.tags >>> which & 1) == 1;
+                return (asked.tags >>> which & 1) == 1;
             }
-            int fact = which < facts.facts.length ? facts.facts[which] : 0;
+            int fact = which < asked.facts.length ? asked.facts[which] : 0;
             return act == LESS ? fact < step >>> 6 : fact > step >>> 6;
         }
     }
