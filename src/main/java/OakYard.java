@@ -13,6 +13,7 @@ public final class OakYard {
     private static final int MOST_TREES = 60;
     private static final int MOST_PIECES = 120;
     private static final int MOST_THICK = 60;
+    private static final int MOST_ROT = 100;
     private static final int MOST_SHIPS = 8;
     private static final int MOST_NEEDS = 8;
     private static final int MOST_DOCKS = 4;
@@ -672,15 +673,17 @@ public final class OakYard {
             if (kind == ROPE || place < IN_POND || place > IN_SHIP) {
                 return;
             }
-            if (day % 40 == 0 && rot < 100) {
-                rot += heart / 2;
-                rotByHeart += heart / 2;
+            if (day % 40 == 0) {
+                // of what is cut at 100 the heart has made nothing
+                int more = Math.min(heart / 2, MOST_ROT - rot);
+                rot += more;
+                rotByHeart += more;
             }
             if (place == IN_SHED) {
                 dry++;
             }
-            rot = Math.min(100, rot + rotByPlace(day));
-            if (rot == 100 && place != IN_SHIP) {
+            rot = Math.min(MOST_ROT, rot + rotByPlace(day));
+            if (rot == MOST_ROT && place != IN_SHIP) {
                 place = ROTTED;
             }
         }

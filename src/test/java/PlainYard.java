@@ -1042,9 +1042,9 @@ public final class PlainYard {
 
     private void rots(Piece p) {
         int heart = p.tree == NONE ? 0 : s.trees.get(p.tree).heart / 2;
-        if (s.day % 40 == 0 && p.rot < 100) {
-            p.rot += heart;
-            p.hearted += heart;
+        for (int n = 0; n < heart && s.day % 40 == 0 && p.rot < 100; n++) {
+            p.rot++;
+            p.hearted++;
         }
         if (p.place == 2) {
             p.dry++;

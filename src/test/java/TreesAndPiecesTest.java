@@ -13,6 +13,7 @@ final class TreesAndPiecesTest {
         sheds();
         tellings();
         looks();
+        looksOfCutRot();
         c.end();
     }
 
@@ -224,5 +225,39 @@ final class TreesAndPiecesTest {
         y.days(200);
         c.is("it is rotted", y.piece(0, 1), 6);
         c.is("look at a rotted one", y.look(0), OakYard.NONE);
+    }
+
+    /** On day 160 the heart of 8 would make 4 more, but what is cut at 100 it has not made. */
+    private static void looksOfCutRot() {
+        int[] dueOf94On = {83, 84, 84, 85, 86, 87, 88};
+        for (int n = 0; n < dueOf94On.length; n++) {
+            int ahead = 94 + n;
+            OakYard y = inShipWithRot(ahead);
+            c.is("rot ahead of day 160", y.piece(0, 7), ahead);
+            c.is("a look then", y.look(0), ahead - 12);
+            y.days(1);
+            c.is("rot on day 160 of " + ahead, y.piece(0, 7), Math.min(100, ahead + 5));
+            c.is("a look at " + ahead + " and the heart's part of 4", y.look(0), dueOf94On[n]);
+            y.days(40);
+            c.is("a look at 100 and nothing more of the heart", y.look(0), Math.min(88, 84 + Math.max(0, ahead - 96)));
+            y.out(0, 0);
+            c.is("the same out of the ship", y.look(0), Math.min(88, 84 + Math.max(0, ahead - 96)));
+        }
+    }
+
+    /** Day 159: an oak that has 12 of the heart of 8, and one more of each day in a ship. */
+    private static OakYard inShipWithRot(int rot) {
+        OakYard y = new OakYard();
+        y.road(0, 0);
+        y.tree(0, 0, 50, 20, 0, 8);
+        y.fell(0, 0);
+        y.ship(5, 0, false);
+        y.need(0, 0, 5, 5, 0);
+        y.lay(0);
+        y.days(159 - (rot - 12));
+        y.shed(0);
+        y.fit(0, 0, 0, true);
+        y.days(rot - 12);
+        return y;
     }
 }
