@@ -21,6 +21,14 @@ final class Check {
     }
 
     void refuses(String what, Class<? extends RuntimeException> due, Call call) {
+        throwsWhat(what, due.getSimpleName(), call);
+    }
+
+    void takes(String what, Call call) {
+        throwsWhat(what, "nothing", call);
+    }
+
+    private void throwsWhat(String what, String due, Call call) {
         asked++;
         String got = "nothing";
         try {
@@ -28,9 +36,9 @@ final class Check {
         } catch (RuntimeException e) {
             got = e.getClass().getSimpleName();
         }
-        if (!got.equals(due.getSimpleName())) {
+        if (!got.equals(due)) {
             wrong++;
-            System.out.println(what + " throws " + got + ", due is " + due.getSimpleName());
+            System.out.println(what + " throws " + got + ", due is " + due);
         }
     }
 
