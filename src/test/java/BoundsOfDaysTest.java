@@ -415,11 +415,13 @@ final class BoundsOfDaysTest {
         for (int ship = 0; ship <= 6; ship++) {
             OakYard y = Yards.rich();
             y.end(0);
-            Check.warrant(y, "chip 1000; chip 0; chip 30 if gangs > 0; chip 400 if gangs > 1; chip 5 if dry > 0 or seen", 116);
+            Check.warrant(y, "chip 1000; chip 0; chip 30 if gangs > 0; chip 400 if gangs > 1; chip 5 if dry > 0 or rot > 0"
+                    + " or thick > 0 or long > 0 or age > 0 or oak or elm or fir or seen", 116);
             y.works(0, OakYard.NONE);
             y.works(1, OakYard.NONE);
             y.works(2, ship);
             int chips = y.count(15);
+            y.why(2, 1, 116);
             y.days(1);
             c.is("promise 39: CHIPS of ship " + ship, y.count(15), chips + (carries[ship] ? 1030 : 0));
         }

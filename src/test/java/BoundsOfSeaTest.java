@@ -21,6 +21,8 @@ final class BoundsOfSeaTest {
         promise33Tellings();
         promise33OpensAbove80();
         promise33OwesNothing();
+        promise33OwesByTheseFacts();
+        promise33TheWorstRotAndTheLeastDry();
         promise33Owes2000000000AtMost();
         promise34FromTodayOn();
         promise34BeyondTheLastDay();
@@ -339,6 +341,84 @@ final class BoundsOfSeaTest {
                 y.days(100);
                 c.is("promise 33: hired " + hired + " by '" + texts[n] + "'", y.led(0, 7), hired ? dues[n] : 0);
             }
+        }
+    }
+
+    /** Promise 33: of owe LINES: hired, age since launched, dry, rot, gangs at the very number; the others 0 or no. */
+    private static void promise33OwesByTheseFacts() {
+        String[] facts = {"age", "dry", "rot", "gangs", "thick", "long"};
+        int[] values = {78, 6, 81, 2, 0, 0};
+        for (int n = 0; n < facts.length; n++) {
+            owes(facts[n] + "<" + values[n], 0);
+            owes(facts[n] + "<" + (values[n] + 1), 5);
+            owes(facts[n] + ">" + values[n], 0);
+            owes("not " + facts[n] + ">" + values[n], 5);
+            if (values[n] > 0) {
+                owes(facts[n] + ">" + (values[n] - 1), 5);
+            }
+        }
+        owes("hired", 5);
+        owes("oak or elm or fir or seen", 0);
+        owes("not seen and not oak", 5);
+    }
+
+    /** What a ship owes by that condition: 9 days old its plank (DRY 6) went in, it was launched 3 days later. */
+    private static void owes(String condition, int due) {
+        OakYard y = new OakYard();
+        y.buy(0, 0, 10, 10, 0);
+        y.look(0);
+        y.days(3);
+        y.shed(0);
+        y.days(6);
+        y.ship(5, 0, true);
+        y.need(0, 0, 10, 10, 0);
+        y.lay(0);
+        y.fit(0, 0, 0, true);
+        y.gang(1);
+        y.gang(1);
+        y.works(0, 0);
+        y.works(1, 0);
+        y.days(3);
+        y.launch(0);
+        y.sail(0, true);
+        Check.warrant(y, "owe 5 if " + condition, 12);
+        y.days(77);
+        c.is("promise 33: nothing owed with ROT 80", y.led(0, 7), 0);
+        y.why(0, 0, 89);
+        y.days(1);
+        c.is("promise 33: owed if " + condition, y.led(0, 7), due);
+    }
+
+    /** Promise 33: the worst ROT and the least DRY of its PIECES, whichever NEED they are in. */
+    private static void promise33TheWorstRotAndTheLeastDry() {
+        for (int first = 0; first < 3; first++) {
+            OakYard y = new OakYard();
+            Check.warrant(y, "owe 1 if dry < 10; owe 2 if dry < 9; owe 4 if rot > 81; owe 8 if rot > 80", 0);
+            for (int p = 0; p < 3; p++) {
+                y.buy(0, 0, 10, 10, 0);
+            }
+            y.shed(1);
+            y.days(11);
+            y.shed(0);
+            y.days(9);
+            y.shed(2);
+            y.days(9);
+            y.ship(5, 0, true);
+            for (int n = 0; n < 3; n++) {
+                y.need(0, 0, 10, 10, 0);
+            }
+            y.lay(0);
+            for (int n = 0; n < 3; n++) {
+                y.fit(0, n, (first + n) % 3, true);
+            }
+            y.launch(0);
+            y.sail(0, true);
+            int rot = y.led(0, 10);
+            c.is("promise 33: the worst ROT", rot, 2);
+            y.days(80 - rot);
+            c.is("promise 33: not OPEN with ROT 80", y.led(0, 6), 0);
+            y.days(1);
+            c.is("promise 33: owed by the worst ROT 81 and the least DRY 9", y.led(0, 7), 1 + 8);
         }
     }
 

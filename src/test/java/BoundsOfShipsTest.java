@@ -32,6 +32,7 @@ final class BoundsOfShipsTest {
         promise24OfSeveral();
         promise25NoneAndNothing();
         promise25WhatIsMade();
+        promise25OfTheFirstTheLeastAndTheGreatest();
         promise26Refusals();
         promise26JustReady();
         c.end();
@@ -569,6 +570,41 @@ final class BoundsOfShipsTest {
         again.fit(0, 0, 3, true);
         again.buy(2, 0, 40, 10, 0);
         c.is("promise 25: also for a NEED that is FIT", again.make(0, 0), 5);
+    }
+
+    /** Promise 25: SORT, TREE and DAY of the first, THICK and DRY the least, ROT the greatest, whichever has it. */
+    private static void promise25OfTheFirstTheLeastAndTheGreatest() {
+        for (int first = 0; first < 3; first++) {
+            OakYard y = new OakYard();
+            y.road(0, 0);
+            y.ship(5, 0, false);
+            y.need(0, 2, 82, 8, 0);
+            for (int n = 0; n < 3; n++) {
+                int own = (first + n) % 3;
+                y.tree(0, own == 0 ? 2 : 1, 30, 8 + own, 0, own == 2 ? 9 : 0);
+                y.fell(n, 2);
+                y.days(1);
+                if (own == 1) {
+                    y.shed(n);
+                }
+                y.look(n);
+            }
+            for (int n = 0; n < 3; n++) {
+                y.shed(n);
+                y.days(n == 2 ? 41 - y.count(0) : 5);
+            }
+            int dry = Math.min(y.piece(0, 6), Math.min(y.piece(1, 6), y.piece(2, 6)));
+            int rot = Math.max(y.piece(0, 7), Math.max(y.piece(1, 7), y.piece(2, 7)));
+            c.is("promise 25: made", y.make(0, 0), 3);
+            int[] due = {2, 2, 82, 8, 0, first == 0 ? 2 : 1, dry, rot, 0, 0, 0, -1, -1, 0, 41};
+            for (int what = 0; what < due.length; what++) {
+                c.is("promise 25: of the one made " + what, y.piece(3, what), due[what]);
+            }
+            c.is("promise 25: nothing of it by HEART", y.look(3), rot);
+            y.days(39);
+            int later = y.piece(3, 7);
+            c.is("promise 25: by the HEART of its TREE from now on", later - y.look(3), first == 2 ? 4 : 0);
+        }
     }
 
     /** Promise 26: a SHIP on a SLIP with all NEEDS FIT and WORK 0; false, and nothing happens, else. */

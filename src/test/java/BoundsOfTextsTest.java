@@ -20,11 +20,13 @@ final class BoundsOfTextsTest {
         promise12Words();
         promise12Blanks();
         promise12MoreMustCome();
+        promise12TheFirstOfSeveral();
         promise13Faults();
         promise14NoSuchPieceOrShip();
         promise14Days();
         promise14Facts();
         promise14Tags();
+        promise14AndOrNot();
         promise15TheFirstLine();
         promise51Refusals();
         promise51Texts();
@@ -243,6 +245,8 @@ final class BoundsOfTextsTest {
         faulty("chip 9iff oak", 6);
         faulty("fit plank if dry5", 16);
         faulty("fit plank if dry<5oak", 18);
+        faulty("fit plank if oakz", 13);
+        faulty("fit plank if aoak", 13);
         faulty("{it plank", 0);
         faulty("`it plank", 0);
         faulty("fit plankZ", 9);
@@ -281,6 +285,25 @@ final class BoundsOfTextsTest {
         }
         String most = "fit plank if" + " ".repeat(388);
         faulty(most, 400);
+    }
+
+    /** Promise 12: the first wrong byte stays the first, whatever is wrong behind it. */
+    private static void promise12TheFirstOfSeveral() {
+        String[] wrong = {"and", "or", ")", ";", "<", "if", "5", "x", "and and", "or or", "and 5", "or (", ") )", "; ;",
+            "; fit", "and not", "or not and", "fit", "look 1; x", "if if"};
+        for (String behind : wrong) {
+            faulty("fit plank if not " + behind, 17);
+            faulty("fit plank if not (" + behind, 18);
+            faulty("fit plank if oak or " + behind, 20);
+            faulty("fit plank if oak and " + behind, 21);
+            faulty("fit plank if ((elm) and " + behind, 24);
+            faulty("fit plank if dry < " + (behind.startsWith("5") ? "" : behind), 19);
+            faulty("fit " + behind, 4);
+        }
+        faulty("fit x; fit y", 4);
+        faulty("look 101; look 102", 5);
+        faulty("look 1 look 2; look 3 look 4", 7);
+        faulty("x; fit plank if", 0);
     }
 
     /** Promise 13: of the latest text that was read; NONE without one wrong byte, and ahead of any text. */
@@ -392,6 +415,31 @@ final class BoundsOfTextsTest {
         c.is("promise 14: another one", y.why(1, 0, 2), 0);
         c.is("promise 14: a contractor's", y.why(0, 0, 3), 0);
         c.is("promise 14: not a contractor's", y.why(0, 1, 3), 1);
+    }
+
+    /** Promise 14: not of its ATOM alone, and ahead of or, as many as there are; for all ways in which three may hold. */
+    private static void promise14AndOrNot() {
+        String[] texts = {"hired or oak and seen", "not hired or oak and seen", "hired and not oak or seen",
+            "not (hired or oak) and seen", "not not hired and (oak or not seen)", "hired and oak and seen or hired and not oak",
+            "(hired or (oak or (seen))) and not (hired and oak and seen)", "hired or oak or seen or hired",
+            "not hired and not oak and not seen"};
+        for (int way = 0; way < 8; way++) {
+            boolean h = (way & 1) > 0;
+            boolean o = (way & 2) > 0;
+            boolean s = (way & 4) > 0;
+            boolean[] due = {h || o && s, !h || o && s, h && !o || s, !(h || o) && s, h && (o || !s), h && o && s || h && !o,
+                (h || o || s) && !(h && o && s), h || o || s, !h && !o && !s};
+            for (int n = 0; n < texts.length; n++) {
+                OakYard y = new OakYard();
+                Check.warrant(y, "fit plank if " + texts[n], 0);
+                y.buy(0, o ? 0 : 1, 10, 10, 0);
+                y.ship(5, 0, h);
+                if (s) {
+                    y.look(0);
+                }
+                c.is("promise 14: way " + way + " of " + texts[n], y.may(0, 0, 0), due[n]);
+            }
+        }
     }
 
     /** Promise 15: the first LINE that holds, counted with the lines of all kinds from 0 on; NONE. */

@@ -19,6 +19,8 @@ final class BoundsOfUndoTest {
         promise53KeepChangesNothing();
         promise54WithoutAnImage();
         promise54AllIsAsItWasKept();
+        promise54NothingIsLost();
+        promise54WhereOthersCame();
         promise54OnceMore();
         promise54NothingToBeUndone();
         promise54TapeAndFaultStay();
@@ -274,6 +276,116 @@ final class BoundsOfUndoTest {
             y.undo();
             y.back();
         });
+    }
+
+    /** Promise 54: nothing is lost on the way to THE IMAGE and back, nor by what was there in its stead. */
+    private static void promise54NothingIsLost() {
+        String due = Everything.ofToday(Yards::rich);
+        c.is("promise 54: kept and gone back", Everything.ofToday(BoundsOfUndoTest::settled).equals(due), true);
+        String built = Everything.ofToday(() -> {
+            OakYard y = new OakYard();
+            Yards.build(y);
+            return y;
+        });
+        c.is("promise 54: built again in the stead of what is gone", Everything.ofToday(() -> {
+            OakYard y = new OakYard();
+            y.keep();
+            buildOtherwise(y);
+            y.back();
+            Yards.build(y);
+            return y;
+        }).equals(built), true);
+    }
+
+    /** Trees, pieces and ships that are unlike those of the rich yard: with hearts, looked at, open, in other places. */
+    private static void buildOtherwise(OakYard y) {
+        y.road(0, 0);
+        y.slips(8);
+        y.sheds(120);
+        y.dock(40);
+        Check.warrant(y, "owe 8", 0);
+        for (int n = 0; n < 16; n++) {
+            y.tree(0, 2, 77, 44, -7, 9);
+            y.fell(n, n < 8 ? 1 : n % 3);
+        }
+        y.days(160);
+        for (int p = 0; p < 16; p++) {
+            y.shed(p);
+            y.look(p);
+        }
+        y.days(60);
+        for (int x = 0; x < 8; x++) {
+            y.ship(30, 0, true);
+            y.need(x, 1, 70, 40, -8);
+            y.lay(x);
+            y.fit(x, 0, x, true);
+            y.launch(x);
+            y.moor(x, 0, x == 7);
+            y.sail(x, true);
+            y.gang(40);
+            y.works(x, x);
+        }
+        y.days(200);
+    }
+
+    /** Promise 54: what THE IMAGE has is there again, also where an undo took it and others came in its stead. */
+    private static void promise54WhereOthersCame() {
+        for (int by = 0; by <= 1; by++) {
+            int first = by;
+            String due = Everything.ofToday(() -> told(onDay4(), first));
+            c.is("promise 54: others in its stead, way " + by, Everything.ofToday(() -> {
+                OakYard y = told(onDay4(), first);
+                y.keep();
+                y.undo();
+                told(y, 1 - first);
+                y.back();
+                return y;
+            }).equals(due), true);
+            c.is("promise 52: others that are undone, way " + by, Everything.ofToday(() -> {
+                OakYard y = told(onDay4(), 1 - first);
+                y.undo();
+                told(y, first);
+                y.days(3);
+                y.undo();
+                return y;
+            }).equals(due), true);
+        }
+    }
+
+    private static OakYard onDay4() {
+        OakYard y = new OakYard();
+        y.days(4);
+        return y;
+    }
+
+    /** A piece bought, and all that calls tell that are not undone: in one of two ways, each number otherwise. */
+    private static OakYard told(OakYard y, int by) {
+        y.buy(1 + by, by, 30 + by, 20 + by, 3 - 3 * by);
+        y.end(0);
+        Check.warrant(y, by == 0 ? "fit knee if oak; look 9" : "look 7; fit mast; chip 6", 4 + by);
+        Check.warrant(y, by == 0 ? "chip 5" : "fit knee; fit mast; owe 5", 7 + by);
+        y.look(0);
+        y.sheds(1 + by);
+        y.slips(2 + by);
+        for (int n = 0; n < 3; n++) {
+            y.road(n, 7 * by + n);
+            y.tree(n + by, 2 - by, 20 + n + by, 10 + n + 2 * by, n - 3 * by, 9 - 4 * by);
+            y.ship(5 + n + by, 10 - n - by, n == by);
+            y.need(n, 1 + by, 12 + n + by, 8 + n + 2 * by, (2 + n) * (1 - by));
+            y.need(n, 2 * by, 5 + by, 6 - by, 0);
+            y.dock(2 * n + 3 * by);
+            y.tide(n + by, 3 + 2 * by);
+            y.gang(4 + n + by);
+            y.enter((n + by) % 2, 1 + by, 5 + n + 3 * by, 3 + n + by);
+            y.muster(2 - by - n % 2, 5 + 2 * by + n);
+            y.choice(10 + n + by, 3 * by + n, by == 0 ? 1 + n : 5 - 2 * n, 1 + by);
+            y.coin(n, by, 17 + 2 * n + by);
+        }
+        y.lay(by);
+        y.lay(2);
+        y.works(0, by);
+        y.works(1, 2 - by);
+        return y;
     }
 
     /** Promise 54: one may go back to it again; there is one image, the last that was kept. */

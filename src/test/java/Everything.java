@@ -18,6 +18,11 @@ final class Everything {
                 + taped(yards.get());
     }
 
+    /** All but what may be undone, what was kept, and the tape. */
+    static String ofToday(Supplier<OakYard> yards) {
+        return asked(yards.get()) + goneOn(yards.get());
+    }
+
     /** What questions tell. */
     private static String asked(OakYard yard) {
         Everything all = new Everything(yard);

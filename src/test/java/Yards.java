@@ -11,11 +11,7 @@ final class Yards {
      */
     static OakYard rich() {
         OakYard y = new OakYard();
-        tellWoodsAndTexts(y);
-        sendOutAndOpen(y);
-        buildOn(y);
-        floatMore(y);
-        tellBooks(y);
+        build(y);
         y.keep();
         y.days(2);
         y.road(1, 60);
@@ -34,6 +30,15 @@ final class Yards {
         return y;
     }
 
+    /** The rich yard up to day 111, where its image is kept; the yard is a new one, or as new. */
+    static void build(OakYard y) {
+        tellWoodsAndTexts(y);
+        sendOutAndOpen(y);
+        buildOn(y);
+        floatMore(y);
+        tellBooks(y);
+    }
+
     private static void tellWoodsAndTexts(OakYard y) {
         y.road(0, 0);
         y.tree(0, 0, 50, 20, 3, 9);
@@ -46,7 +51,7 @@ final class Yards {
         y.sheds(12);
     }
 
-    /** Ship 0 opens on day 81; piece 14 is rotted. */
+    /** Ship 0 opens on day 81; piece 1 is rotted on day 102. */
     private static void sendOutAndOpen(OakYard y) {
         y.ship(5, 0, true);
         y.need(0, 0, 10, 10, 0);
