@@ -25,6 +25,7 @@ final class BoundsOfTextsTest {
         promise14NoSuchPieceOrShip();
         promise14Days();
         promise14Facts();
+        promise14NumbersAsTheyAreNow();
         promise14Tags();
         promise14AndOrNot();
         promise15TheFirstLine();
@@ -383,6 +384,25 @@ final class BoundsOfTextsTest {
             Check.warrant(y, "fit plank if " + fact + " > 0 or " + fact + " < 0", 0);
             c.is("promise 14: " + fact + " of 0", y.may(0, 0, 0), false);
         }
+    }
+
+    /** Promise 14: of a later DAY, and of one that is over, the numbers are as they are now. */
+    private static void promise14NumbersAsTheyAreNow() {
+        OakYard y = new OakYard();
+        y.buy(0, 0, 10, 10, 0);
+        y.shed(0);
+        y.ship(5, 0, false);
+        y.gang(1);
+        Check.warrant(y, "fit plank if age > 7 and dry > 7 and gangs > 0", 0);
+        Check.warrant(y, "fit plank if age < 8 and dry < 8 and gangs < 1", 4000);
+        y.days(7);
+        c.is("promise 14: DAY 0 on day 7", y.may(0, 0, 0), false);
+        c.is("promise 14: DAY 4000 on day 7", y.may(0, 0, 4000), true);
+        y.days(1);
+        c.is("promise 14: DAY 4000 on day 8", y.may(0, 0, 4000), false);
+        c.is("promise 14: DAY 0 on day 8, without a GANG", y.may(0, 0, 0), false);
+        y.works(0, 0);
+        c.is("promise 14: DAY 0 on day 8, with a GANG", y.may(0, 0, 0), true);
     }
 
     private static void lets(String condition, boolean due) {

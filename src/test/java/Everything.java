@@ -162,7 +162,7 @@ final class Everything {
         }
         for (int n = 0; n < 45; n++) {
             y.days(1);
-            for (int p = 0; p < y.count(3); p += 1) {
+            for (int p = 0; p < y.count(3); p++) {
                 told.append(y.piece(p, 1)).append(' ').append(y.piece(p, 7)).append(' ');
             }
             tell("chips", y.count(15));
